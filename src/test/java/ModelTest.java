@@ -694,7 +694,31 @@ public final class ModelTest {
         return text.length() + 2;
     }
 
+    // valleys that chance almost never makes: where leaving all pegs is best, where 60 turns bring the year back
+    private static final String[] RARE = {
+        "valley;weeks 0 1;weeks 1 6;weeks 2 10;weeks 3 11;weeks 4 6;weeks 6 10;weeks 7 6;team 3 5 3;team 4 7 2;team 2 2 1;team 2 3 6;team 3 3 4;team 3 6 5;",
+        "valley;weeks 1 11;weeks 2 3;weeks 3 2;weeks 6 1;weeks 7 5;peg 1;peg 4;team 1 9 5;team 4 2 6;team 5 3 7;",
+    };
+
+    private static void rareValleys() {
+        for (String text : RARE) {
+            Model model = new Model();
+            YearStretch x = new YearStretch();
+            for (int i = 0; i < text.length(); i++) {
+                compare(-1, model, x, "type", text.charAt(i));
+            }
+            compare(-1, model, x, "read");
+            compare(-1, model, x, "again");
+            for (int s = 0; s < 8; s++) {
+                for (int m = 0; m <= 20; m++) {
+                    compare(-1, model, x, "pegIt", s, m);
+                }
+            }
+        }
+    }
+
     public static void main(String[] args) {
+        rareValleys();
         for (int run = 0; run < RUNS; run++) {
             Random random = new Random(run);
             Model model = new Model();

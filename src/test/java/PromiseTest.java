@@ -29,6 +29,11 @@ public final class PromiseTest {
         }
     }
 
+    private static void tell(YearStretch x, String text) {
+        type(x, text);
+        due("read of '" + text + "'", x.read() > 0 ? 1 : 0, 1);
+    }
+
     private static long mix(long h, long... values) {
         for (long v : values) {
             h = 31 * h + v;
@@ -242,6 +247,16 @@ public final class PromiseTest {
         dueRead("  Valley;", -12);
         dueRead("valleY;", -10);
         dueRead("valley1;", -16);
+        dueRead("valleyz;", -10);
+        dueRead("valleya;", -10);
+        dueRead("valley{;", -16);
+        dueRead("valley`;", -16);
+        dueRead("alley;", -10);
+        dueRead("galley;", -10);
+        dueRead("valley;geeks 0 1;", -17);
+        dueRead("valley;keg 0;", -17);
+        dueRead("valley;beam 0 1 0;", -17);
+        dueRead("valley;cork 0 1;", -17);
         dueRead(";", -10);
         dueRead("3;", -10);
         dueRead("weeks 0 1;", -10);
@@ -517,6 +532,7 @@ public final class PromiseTest {
         due("then(0, -1)", x.then(0, -1), -2);
         promise = 16;
         // 7 5 3 1 0: season 0 is folded behind turn 6 (the 7th one), 2 behind turn 7
+        due("folded(0)", x.folded(0), 0);
         due("folded(6)", x.folded(6), 0);
         due("folded(7)", x.folded(7), 1);
         due("folded(8)", x.folded(8), 5);
@@ -630,36 +646,31 @@ public final class PromiseTest {
         due("pegIt(0, 21)", x.pegIt(0, 21), -2);
         due("pegIt(0, -1)", x.pegIt(0, -1), -2);
         dueRefused(x, "pegIt", 4, 0, 0);
-        // each peg but those that hold already is in the way of season 4, so that leaving all is best
         x.valley();
         for (int s = 0; s < 8; s++) {
-            x.weeks(s, 0);
+            due("no turns: all alike, the first", x.pegIt(s, 0), 0);
         }
-        x.weeks(0, 10);
-        x.weeks(7, 20);
-        x.team(0, 9, 1);
-        x.team(0, 9, 2);
-        x.team(0, 9, 3);
-        x.team(0, 9, 6);
-        x.team(0, 9, 5);
-        x.team(0, 9, 4);
-        due("leaving all as it is", x.then(2, 4) > 0 ? x.pegIt(4, 2) : -99, leavingAll(x));
+        // found by a search: every peg, driven or drawn, leaves season 5 with fewer weeks
+        tell(x, "valley;weeks 0 1;weeks 1 6;weeks 2 10;weeks 3 11;weeks 4 6;weeks 6 10;weeks 7 6;"
+                + "team 3 5 3;team 4 7 2;team 2 2 1;team 2 3 6;team 3 3 4;team 3 6 5;");
+        due("leaving all as it is", x.pegIt(5, 17), 7);
+        due("leaving all as it is", bestPeg(x, 5, 17), 7);
     }
 
     // the same question, asked with the calls peg, then and undo
-    private static int leavingAll(YearStretch x) {
+    private static int bestPeg(YearStretch x, int s, int m) {
         int best = 7;
         int most = -1;
         for (int i = 0; i < 7; i++) {
             x.peg(i);
-            int got = x.then(2, 4);
+            int got = x.then(m, s);
             x.undo();
             if (got > most) {
                 most = got;
                 best = i;
             }
         }
-        return x.then(2, 4) > most ? 7 : best;
+        return x.then(m, s) > most ? 7 : best;
     }
 
     private static void choose() {
@@ -704,8 +715,27 @@ public final class PromiseTest {
         x.weeks(0, 9);
         x.team(0, 2, 1);
         x.team(0, 1, 6);
-        // of like ones the least is season 0, from where none pulls in turn 0
+        // of like ones the least is season 0, for which none can pull in turn 0: each has more by its own
         due("of like ones the least", x.choose(0, 1, 1), 1);
+        x.valley();
+        x.team(0, 2, 0);
+        x.team(0, 1, 6);
+        // season 0 is the longest one, being the first of like ones, so a pulls for it either way
+        due("of like ones the least", x.choose(0, 1, 1), 3);
+        // b takes from a's season: a has 7 + 4 - 4 by its own, 7 - 4 otherwise; b has 11, else 7
+        x.valley();
+        x.weeks(5, 30);
+        x.team(0, 4, 2);
+        x.team(0, 4, 3);
+        due("each takes for its own", x.choose(0, 1, 1), 1);
+        x.valley();
+        x.weeks(3, 8);
+        x.peg(1);
+        x.team(0, 4, 2);
+        x.team(0, 4, 4);
+        // a has nothing by its own (a peg), and loses by pulling for 3 in turn 0; b takes from 3
+        due("a and b for their own", x.choose(0, 1, 1), 1);
+        due("b's gain is by b's season", x.choose(1, 0, 1), 1);
     }
 
     private static void due() {
@@ -767,6 +797,9 @@ public final class PromiseTest {
         due("as it is in the first turn", x.again(), 1);
         x.turn(1);
         due("not from an odd one", x.again(), -1);
+        // found by a search
+        tell(x, "valley;weeks 1 11;weeks 2 3;weeks 3 2;weeks 6 1;weeks 7 5;peg 1;peg 4;team 1 9 5;team 4 2 6;team 5 3 7;");
+        due("behind 60 turns", x.again(), 60);
     }
 
     private static void measured() {
@@ -983,6 +1016,7 @@ public final class PromiseTest {
         due("digest", x.digest(), kept);
         due("from(2)", x.from(2), -2);
         due("from(-1)", x.from(-1), -2);
+        imagesOfThePast();
         YearStretch y = new YearStretch();
         y.image(1);
         due("none was kept", y.from(0), -3);
@@ -994,6 +1028,33 @@ public final class PromiseTest {
         due("the text stays", y.count(6), 1);
         due("the fraction stays", y.part(0), 1);
         due("the status stays", y.status(1), 1);
+    }
+
+    private static void imagesOfThePast() {
+        YearStretch x = new YearStretch();
+        x.turn(11);
+        x.peg(4);
+        x.weeks(6, 60);
+        x.peg(4);
+        x.image(0);
+        x.valley();
+        x.weeks(0, 1);
+        x.weeks(0, 2);
+        x.from(0);
+        due("8 are kept", x.count(5), 8);
+        due("undo", x.undo(), 11);
+        due("weeks as they were", x.of(6, 0), 60);
+        due("undo", x.undo(), 11);
+        due("weeks as they were", x.of(6, 0), 7);
+        due("the peg as it was", x.peg(4), 0);
+        x.undo();
+        due("undo", x.undo(), 11);
+        due("the peg as it was", x.peg(4), 1);
+        x.undo();
+        for (int t = 10; t >= 6; t--) {
+            due("undo", x.undo(), t);
+        }
+        due("no more", x.undo(), -3);
     }
 
     private static void statusAndCount() {
