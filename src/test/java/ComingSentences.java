@@ -809,6 +809,18 @@ final class ComingSentences extends Boundary {
         due("one is left", x.next(0, 3), 0);
     }
 
+    @Sentence(promise = 28, says = "MEASURE NEXT of a TEAM behind m TURNS: the SEASON by which the most of these KINDS that have alike are fewest;")
+    static void nextMayTellOnlyOneOfSixApart() {
+        YearStretch x = new YearStretch();
+        x.weeks(3, 4);
+        x.weeks(4, 0);
+        x.team(0, 9, 4);
+        // all take the 4 that are in season 3, but for greased ones
+        due("five alike in season 3, six in season 0", x.next(0, 1), 3);
+        x.weeks(3, 0);
+        due("six alike in all", x.next(0, 1), 0);
+    }
+
     @Sentence(promise = 28, says = "of like ones the first;")
     static void nextOfLikeSeasonsTheFirst() {
         YearStretch x = new YearStretch();
@@ -971,6 +983,18 @@ final class ComingSentences extends Boundary {
         due("w -1", x.years(0, 1, -1), BAD);
     }
 
+    @Sentence(promise = 31, says = "X by 65536 (cut), by 100 left over, less than w: it pulls, else rests:")
+    static void xIsCutBy65536() {
+        YearStretch x = new YearStretch();
+        x.team(0, 1, 1);
+        x.work(1, 8);
+        // seed 42627: X 1062535168 is 65536 times 16213; seed 47902: X 277282815 is one less than 65536 times 4231
+        due("13 is not less than 13", x.years(42627, 1, 13), 0);
+        due("13 is less than 14", x.years(42627, 1, 14), 1);
+        due("30 is not less than 30", x.years(47902, 1, 30), 0);
+        due("30 is less than 31", x.years(47902, 1, 31), 1);
+    }
+
     @Sentence(promise = 31, says = "in each TURN, for each TEAM in order, X becomes X times 1103515245 and 12345, by 2147483648 what is left over;")
     static void eachTeamHasItsOwnX() {
         YearStretch x = new YearStretch();
@@ -989,6 +1013,26 @@ final class ComingSentences extends Boundary {
             long pull = Arrays.stream(left).filter(n -> n < w).count();
             due("w " + w, x.years(0, 1, w), pull);
         }
+    }
+
+    @Sentence(promise = 31, says = "in each TURN, for each TEAM in order,")
+    static void theTeamsHaveTheirXInOrder() {
+        YearStretch x = new YearStretch();
+        x.team(0, 1, 2);
+        x.team(0, 1, 6);
+        x.work(2, 8);
+        // of seed 0 the first team has 0, the second 68
+        due("the first pulls", x.years(0, 1, 1), 1);
+        x.idle();
+        x.work(6, 8);
+        due("the second rests", x.years(0, 1, 1), 0);
+        due("the second rests by 68", x.years(0, 1, 68), 0);
+        due("the second pulls by 69", x.years(0, 1, 69), 1);
+        // in turn 1 the first has 88, the second 17: season 6 has 9 by both turns of the second only
+        x.work(6, 9);
+        due("the second pulls in both turns by 69", x.years(0, 2, 69), 2);
+        due("in turn 1 alone by 18", x.years(0, 2, 18), 1);
+        due("in none by 17", x.years(0, 2, 17), 0);
     }
 
     @Sentence(promise = 31, says = "in each TURN, for each TEAM in order, X becomes X times 1103515245 and 12345,")
@@ -1185,6 +1229,38 @@ final class ComingSentences extends Boundary {
         due("no more", x.undo(), NO);
         due("weeks", x.of(0, 0), 7);
         due("peg 0", x.peg(0), 1);
+    }
+
+    private static void changeEverything(YearStretch x, int times, int by) {
+        for (int i = 0; i < times; i++) {
+            x.weeks(i % 8, by + i);
+            x.peg((i + by) % 7);
+            x.turn(1);
+        }
+    }
+
+    @Sentence(promise = {33, 34}, says = "what may be undone they keep;")
+    static void imagesKeepWeeksPegsAndTurnOfEachOfTheEight() {
+        for (int image = 0; image < 2; image++) {
+            YearStretch x = new YearStretch();
+            YearStretch like = new YearStretch();
+            x.team(0, 1, 3);
+            like.team(0, 1, 3);
+            changeEverything(x, 4 + image, 20);
+            changeEverything(like, 4 + image, 20);
+            x.image(image);
+            x.valley();
+            changeEverything(x, 5, 50);
+            x.image(1 - image);
+            x.from(image);
+            due("that may be undone", x.count(5), 8);
+            for (int i = 0; i < 8; i++) {
+                due("digest ahead of undo " + i, x.digest(), like.digest());
+                due("undo " + i, x.undo(), like.undo());
+            }
+            due("digest behind all", x.digest(), like.digest());
+            due("no more", x.undo(), NO);
+        }
     }
 
     @Sentence(promise = {33, 34}, says = "what may be undone they keep;")

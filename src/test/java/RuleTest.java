@@ -168,12 +168,12 @@ public final class RuleTest {
             x.team(i, 3, i + 1);
             x.work(i, 40);
         }
-        for (int i = 0; i < 17; i++) {
+        for (int i = 0; i < 16; i++) {
             everyCall(x, i);
         }
         long used = allocated();
         must(made - start <= BYTES_PER_OBJECT, "a new object takes " + (made - start) + " bytes");
-        must(used - made <= BYTES_PER_CALLS, "512 calls take " + (used - made) + " bytes");
+        must(used - made <= BYTES_PER_CALLS, "a run of calls takes " + (used - made) + " bytes");
     }
 
     public static void main(String[] args) throws IOException {
