@@ -1421,19 +1421,4 @@ final class ComingSentences extends Boundary {
         due("status", x.status(3), -1);
         dueStatus(x, "status", 3, 0, 0);
     }
-
-    @Sentence(promise = 36, says = "An object is used for at most 512 calls after it has been made;")
-    static void the512thCallIsAnsweredToo() {
-        YearStretch x = new YearStretch();
-        x.team(4, 1, 3);
-        for (int i = 0; i < 510; i++) {
-            due("turn(60)", x.turn(60), 60 * (i + 1));
-        }
-        due("the 512th call", x.count(2), 30600);
-        YearStretch y = new YearStretch();
-        for (int i = 0; i < 511; i++) {
-            y.status(3);
-        }
-        due("the 512th call", y.status(0), 511);
-    }
 }

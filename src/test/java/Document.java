@@ -10,23 +10,28 @@ import java.util.regex.Pattern;
 final class Document {
     private static final Path PLACE = Path.of("../shared/DOC.md");
     private static final int PROMISES = 37;
-    private static final String ABOUT = "What it is", TERMS = "Terms";
+    // the promises stand at their numbers
+    private static final int TERMS = 0, ABOUT = PROMISES + 1, SECTIONS = PROMISES + 2;
 
-    private final String about;
-    private final String[] sections = new String[PROMISES + 1];
-    private final boolean[][] quoted = new boolean[PROMISES + 1][];
+    private final String[] sections = new String[SECTIONS];
+    private final boolean[][] quoted = new boolean[SECTIONS][];
 
     private Document(String text) {
-        about = section(text, ABOUT);
-        sections[0] = section(text, TERMS).replaceAll("Ahead of the calls [^.]*\\.", "").replaceAll("={8} \\d", "");
+        sections[ABOUT] = sentences(section(text, "What it is"));
+        sections[TERMS] = sentences(section(text, "Terms"));
         for (int promise = 1; promise <= PROMISES; promise++) {
-            // the call's own line ahead of what is promised is no sentence
+            // the call's own line ahead of what is promised is the face's, which FaceTest has
             sections[promise] = section(text, "Promise " + promise + ":[^\n]*").replaceFirst("^\\s*`[^`]*`:", "");
         }
-        for (int i = 0; i <= PROMISES; i++) {
+        for (int i = 0; i < SECTIONS; i++) {
             sections[i] = plain(sections[i]);
             quoted[i] = new boolean[sections[i].length()];
         }
+    }
+
+    // what the interface says ahead of its calls is the face's, too
+    private static String sentences(String section) {
+        return section.replaceAll("Ahead of the calls [^.]*\\.", "").replaceAll("={8} \\d", "");
     }
 
     // null, and said so, where the document is not at hand: the tests themselves don't need it
@@ -47,9 +52,9 @@ final class Document {
         return text.replace("```text", "").replace("```", "").replaceAll("\\s+", " ").trim();
     }
 
-    // a sentence stands in the section of its promise or in the terms
+    // a sentence stands in the section of its promise or in what stands before the promises
     boolean quote(int[] promises, String sentence) {
-        boolean stands = mark(0, sentence) || plain(about).contains(sentence);
+        boolean stands = mark(TERMS, sentence) | mark(ABOUT, sentence);
         for (int promise : promises) {
             stands |= mark(promise, sentence);
         }
@@ -68,9 +73,13 @@ final class Document {
         return stands;
     }
 
+    private static String nameOf(int section) {
+        return section == TERMS ? "the terms" : section == ABOUT ? "what it is" : "promise " + section;
+    }
+
     List<String> leftOut() {
         List<String> left = new ArrayList<>();
-        for (int section = 0; section <= PROMISES; section++) {
+        for (int section = 0; section < SECTIONS; section++) {
             StringBuilder run = new StringBuilder();
             for (int i = 0; i <= sections[section].length(); i++) {
                 boolean open = i < sections[section].length() && !quoted[section][i];
@@ -79,12 +88,12 @@ final class Document {
                     continue;
                 }
                 if (run.chars().anyMatch(Character::isLetterOrDigit)) {
-                    left.add((section == 0 ? TERMS : "promise " + section) + ": " + run.toString().trim());
+                    left.add(nameOf(section) + ": " + run.toString().trim());
                 }
                 run.setLength(0);
             }
             if (sections[section].isEmpty()) {
-                left.add("section " + section + ", which is not there");
+                left.add(nameOf(section) + ", which is not there");
             }
         }
         return left;
